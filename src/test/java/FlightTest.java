@@ -159,6 +159,14 @@ public final class FlightTest {
         x.days(1);
         x.count(1, 2, 0, 0);
         Check.due("as known then", x.guards(1, 1, 1, 1, 0), 2);
+        AwardLine y = land(2, 2, 0, 100, 0, 1, 60, 0);
+        Check.terms(y, "fear 100;lose 50;");
+        y.draft(8);
+        y.candidate(0);
+        y.candidate(1);
+        // 0 to 1 to 3: 50 of 100 and 30 of 60, then 25 of 50
+        placed(y, 0, 1, 2, 0, 105);
+        placed(y, 1, 1, 2, 2, 50);
         Check.due("as known then", x.guards(1, 1, 1, 1, 1), 0);
     }
 

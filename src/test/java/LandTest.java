@@ -79,8 +79,14 @@ public final class LandTest {
         Check.due("no count is left", x.span(4, 0, 7, 1), 999);
         Check.due("no canal is left", x.drinks(0, 1), -1);
         Check.due("no draft is left", Check.looked(x, 0, 0), -101);
-        Check.terms(x, "unit district;first rails+heads;");
-        Check.due("all is district 0 again", x.turned(2, 7), 0);
+        Check.terms(x, "unit district;first villages = 6;");
+        Check.due("all is district 0 again", x.given(7), 63);
+        Check.terms(x, "unit district;first villages < 6;");
+        Check.due("no other district has a village", x.given(7), 0);
+        Check.terms(x, "first rails or heads or shrines;");
+        Check.due("nothing stands in a village", x.given(7), 0);
+        x.canal(0);
+        Check.due("nobody drinks of a new canal", x.drinks(0, 5), 1);
         x.count(2, 4, 10, 20);
         Check.due("the hand errs still", x.span(4, 0, 7, 1), 15);
         AwardLine y = filled();
@@ -294,6 +300,9 @@ public final class LandTest {
             Check.due("candidate " + i, x.candidate(8 - i), i);
         }
         Check.due("it is one", x.candidate(8), -1);
+        AwardLine y = new AwardLine();
+        y.candidate(3);
+        Check.due("it is the only one", y.candidate(3), -1);
         Check.due("a ninth", x.candidate(0), -1);
         Check.due("candidates", x.counted(5), 8);
     }

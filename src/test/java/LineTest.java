@@ -190,6 +190,17 @@ public final class LineTest {
         // 0 on side 1 costs 10 for 1, 1 with it 20 for 2, both are cut at 12 each else
         Check.due("with water", x.best(0, 0), 6);
         Check.due("its harm", x.best(0, 1), 21 + 9 + 12);
+        x.village(1, 0, -1, true);
+        x.village(4, 0, -1, true);
+        Check.terms(x, "weigh rail 17;");
+        // between 1 and 4 lies 17, 18 if 1 goes over, and then 0 and 2 are parted
+        Check.due("with rails", x.best(0, 0), 7);
+        Check.due("with rails, harm", x.best(0, 1), 21 + 17);
+        x.village(0, 0, -1, true);
+        x.village(2, 0, -1, true);
+        Check.terms(x, "weigh rail 10;");
+        Check.due("with more rails", x.best(0, 1), 21 + 10);
+        Check.terms(x, "weigh water 12;");
         x.days(2);
         x.count(1, 1, 999, 2);
         Check.due("best(-1, 0)", x.best(-1, 0), -1);
@@ -258,6 +269,42 @@ public final class LineTest {
         Check.due("a ring, harm", x.best(0, 1), 0);
     }
 
+    private static AwardLine square(int... surplus) {
+        AwardLine x = new AwardLine();
+        x.land(2, 2);
+        for (int v = 0; v < 4; v++) {
+            x.count(0, v, Math.max(0, surplus[v]), Math.max(0, -surplus[v]));
+        }
+        return x;
+    }
+
+    private static void promise21Edges() {
+        Check.due("above 0 by one", square(1, 0, 0, 0).weights(1, 0), 100);
+        AwardLine b = square(0, 0, 0, -1);
+        b.village(0, 0, 0, false);
+        Check.due("a shrine", b.weights(1, 0), 10);
+        // a shrine of 10 b has to be above 89 a: b 9
+        AwardLine nine = square(-89, 1, 0, 0);
+        nine.village(0, 0, 0, false);
+        Check.due("b 9", nine.weights(3, 0), 190);
+        AwardLine ten = square(-90, 1, 0, 0);
+        ten.village(0, 0, 0, false);
+        Check.due("b 10 is too much", ten.weights(3, 0), -1);
+        // 0, 1, 2 by c: 0 has both beside, 1 and 2 one of each; 3 has both beside too
+        Check.due("c 9", square(-179, 1, 1, -180).weights(7, 0), 109);
+        Check.due("c 10 is too much", square(-180, 1, 1, -180).weights(7, 0), -1);
+        // 0: 2 a less 10 b is above 0, 1: 10 b is
+        AwardLine a = square(2, 0, 0, 0);
+        a.village(0, 0, 1, false);
+        a.village(1, 0, 0, false);
+        Check.due("a 6, b 1", a.weights(3, 0), 610);
+        // 10 c lies between 6 a and 7 a, 10 b between 4 a and 5 a: that no a below 9 lets
+        AwardLine most = square(-12, -4, 5, -14);
+        most.village(1, 0, 0, false);
+        most.village(2, 0, 1, false);
+        Check.due("a 9, b 4, c 6", most.weights(7, 0), 946);
+    }
+
     private static void promise21Weights() {
         AwardLine x = land();
         Check.due("nothing weighs", x.weights(0, 0), 0);
@@ -284,5 +331,6 @@ public final class LineTest {
         // 0: -35 a + 10 b, with 1 beside on its side and 2 not; 1: 5 a
         Check.due("a 1, b 4", y.weights(3, 0), 140);
         Check.due("as known on another day", y.weights(3, 999), 140);
+        promise21Edges();
     }
 }

@@ -84,6 +84,13 @@ public final class RumourTest {
         AwardLine x = onDay(5, 1);
         x.note(SIGHT, 0, 0, 0);
         Check.due("day 0", x.knows(0, 0, 5), 0);
+        AwardLine last = onDay(999, 1);
+        last.note(SIGHT, 0, 0, 999);
+        last.note(MEETING, 0, 1, 999);
+        Check.due("the last day", last.knows(1, 0, 999), 999);
+        Check.due("not on the last day", last.knows(2, 0, 999), -1);
+        last.note(SIGHT, 0, 2, 998);
+        Check.due("the last day but one", last.knows(2, 0, 999), 998);
         Check.due("person -1", x.knows(-1, 0, 5), -1);
         Check.due("person 8", x.knows(8, 0, 5), -1);
         Check.due("draft -1", x.knows(0, -1, 5), -1);
@@ -167,6 +174,11 @@ public final class RumourTest {
         Check.due("of draft 0", x.through(9), 1);
         int act = x.note(ACT, 11, 7, 2);
         Check.due("of both", x.through(9), 65);
+        AwardLine y = onDay(9, 1);
+        y.note(ACT, 0, 4, 6);
+        y.note(SIGHT, 0, 3, 6);
+        y.note(MEETING, 4, 3, 6);
+        Check.due("all on one day", y.through(9), 8);
         x.strike(act);
         Check.due("a struck act", x.through(9), 1);
     }

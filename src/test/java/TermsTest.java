@@ -51,6 +51,27 @@ public final class TermsTest {
         Check.due("without a line: fear", x.counted(7), 10);
         Check.due("without a line: lose", x.counted(8), 5);
         Check.due("without a line: knots", x.counted(6), 0);
+        Check.terms(x, "unit land;first 1;weigh shrine 9;fear 9;lose 9;");
+        Check.terms(x, "unit land;first 1;weigh shrine 9;fear 9;lose 9;");
+        Check.terms(x, "weigh rail 1;");
+        x.village(0, 0, 1, false);
+        x.count(0, 0, 10, 0);
+        Check.due("nothing of the terms before is left: unit, first", x.given(0), 1);
+        Check.due("nothing of the terms before is left: weigh", x.does(1, 0, 6), x.does(1, 0, 0));
+        Check.due("nothing of the terms before is left: fear", x.counted(7), 10);
+        cutShort("fear 5", "5;", 1, 6);
+        cutShort("fea", "r 5;", 1, 0);
+        cutShort("first 1 <", "= 1;", 1, 9);
+        cutShort("first 1 ", ";", 1, 8);
+    }
+
+    /** What stands behind the bytes told is not looked at. */
+    private static void cutShort(String told, String behind, int fault, int place) {
+        AwardLine x = new AwardLine();
+        Check.feed(x, (told + behind).getBytes(java.nio.charset.StandardCharsets.ISO_8859_1));
+        Check.due("terms of " + told, x.terms(told.length()), -1);
+        Check.due("fault of " + told, x.fault(0), fault);
+        Check.due("place of " + told, x.fault(1), place);
     }
 
     private static void promise3AFaultLeavesTheTermsAsTheyWere() {
@@ -99,6 +120,11 @@ public final class TermsTest {
         Check.faulty("fear\r5;", 1, 4);
         Check.faulty("feared 5;", 1, 0);
         Check.faulty("fea 5;", 1, 0);
+        Check.faulty("fearz 5;", 1, 0);
+        Check.faulty("feara 5;", 1, 0);
+        Check.faulty("fear{5;", 1, 4);
+        Check.faulty("fear`5;", 1, 4);
+        Check.faulty("fear 5:", 1, 6);
         Check.faulty("fear 5a;", 1, 6);
         Check.faulty("first 1 < = 2;", 1, 10);
         Check.faulty("first 1 > = 2;", 1, 10);
@@ -124,11 +150,15 @@ public final class TermsTest {
         Check.faulty("unit  ", 1, 6);
         Check.faulty("unit ;", 1, 5);
         Check.faulty("unit villages;", 1, 5);
+        Check.faulty("unit shrine;", 1, 5);
+        Check.faulty("unit weigh;", 1, 5);
         Check.faulty("unit land", 1, 9);
         Check.faulty("unit land village;", 1, 10);
         Check.faulty("weigh", 1, 5);
         Check.faulty("weigh 5;", 1, 6);
         Check.faulty("weigh rails 5;", 1, 6);
+        Check.faulty("weigh ones 5;", 1, 6);
+        Check.faulty("weigh land 5;", 1, 6);
         Check.faulty("weigh rail;", 1, 10);
         Check.faulty("weigh rail -1;", 1, 11);
         Check.faulty("fear", 1, 4);
@@ -176,6 +206,7 @@ public final class TermsTest {
         Check.faulty("lose 101;", 2, 5);
         Check.faulty("fear 99999999999999999999999999999999999;", 2, 5);
         Check.faulty("first 4294967296;", 2, 6);
+        Check.faulty("first 99990;", 2, 6);
         Check.reads("first 9999;", 1, 1);
         Check.faulty("first 1+10000;", 2, 8);
         Check.faulty("first ones 10000;", 1, 11);
@@ -257,6 +288,8 @@ public final class TermsTest {
     private static void promise15Values() {
         AwardLine x = land(10, 5, 5, 10, 7, 7, 1, 0);
         gives(x, "first 2 + 3 * 4 = 14;", 15);
+        gives(x, "first 0 * 5 = 0;", 15);
+        gives(x, "first 0 / 5 = 0;", 15);
         gives(x, "first (2 + 3) * 4 = 20;", 15);
         gives(x, "first 10 - 4 - 3 = 3;", 15);
         gives(x, "first 100 / 10 / 5 = 2;", 15);
@@ -281,6 +314,9 @@ public final class TermsTest {
         gives(x, "first 1000*1000*1000*1000;", 15);
         gives(x, "first 1000*1000*1000*1000 + 1;", 0);
         gives(x, "first 1 + 1000*1000*1000*1000 - 1;", 0);
+        gives(x, "first 1000*1000*1000*1000 + 0;", 15);
+        gives(x, "first 1000*1000*1000*1000 - 0;", 15);
+        gives(x, "first 1000*1000*1000*(ones + 990) > 0;", 15);
         gives(x, "first 0 - 1000*1000*1000*1000;", 15);
         gives(x, "first 0 - 1000*1000*1000*1000 - 1;", 0);
         gives(x, "first 1000*1000*1000*1001;", 0);
