@@ -380,6 +380,11 @@ public final class AwardLine {
         return people >= 0 && people <= MOST_COUNTED;
     }
 
+    /** The least number among these bits, of which there is one at least. */
+    private static int leastOf(int bits) {
+        return Integer.bitCount((bits & -bits) - 1);
+    }
+
     /** So many of 100, upwards. */
     private static int shareUp(int people, int of100) {
         return (people * of100 + 99) / 100;
@@ -473,7 +478,7 @@ public final class AwardLine {
 
         /** The piece of these villages that the least one of them lies in. */
         private int firstPiece(int villages) {
-            int piece = Integer.lowestOneBit(villages);
+            int piece = villages & -villages;
             for (int i = 0; i < MOST_VILLAGES; i++) {
                 int wider = piece | beside(piece) & villages;
                 if (wider == piece) {
@@ -1540,8 +1545,9 @@ public final class AwardLine {
             int around = land.beside(1 << village);
             int near = homes;
             for (int steps = 0; steps < MOST_VILLAGES && near != 0; steps++) {
-                if ((around & near) != 0) {
-                    return Integer.numberOfTrailingZeros(around & near);
+                int nearest = around & near;
+                if (nearest != 0) {
+                    return leastOf(nearest);
                 }
                 near |= land.beside(near);
             }
