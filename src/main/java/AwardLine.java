@@ -323,7 +323,7 @@ public final class AwardLine {
     }
 
     public int guards(int m, int drafts, int d, int known, int what) {
-        if (m < 0 || drafts <= 0 || drafts >= 1 << this.drafts.held) {
+        if (m < 0 || m > MOST_CANDIDATES || drafts <= 0 || drafts >= 1 << this.drafts.held) {
             return NONE;
         }
         if (d < 1 || d > MOST_FLIGHT || !isDay(known) || what < 0 || what > 1) {

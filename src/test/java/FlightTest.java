@@ -148,6 +148,8 @@ public final class FlightTest {
         Check.terms(x, "fear 100;lose 50;");
         x.draft(1);
         placed(x, 5, 1, 1, 0, 150);
+        placed(x, 8, 1, 1, 0, 150);
+        Check.due("for 9 of them", x.guards(9, 1, 1, 0, 0), -1);
         x.candidate(3);
         x.candidate(1);
         x.candidate(2);
@@ -212,7 +214,8 @@ public final class FlightTest {
         Check.due("it can be", x.guards(1, 3, 20, 999, 1) >= 0, true);
         int[][] none = {{-1, 1, 1, 0, 0}, {1, 0, 1, 0, 0}, {1, 4, 1, 0, 0}, {1, 5, 1, 0, 0}, {1, -1, 1, 0, 0},
             {1, 1, 0, 0, 0}, {1, 1, 21, 0, 0}, {1, 1, -1, 0, 0}, {1, 1, 1, -1, 0}, {1, 1, 1, 1000, 0},
-            {1, 1, 1, 0, -1}, {1, 1, 1, 0, 2}, {1, Integer.MIN_VALUE, 1, 0, 0}};
+            {1, 1, 1, 0, -1}, {1, 1, 1, 0, 2}, {1, Integer.MIN_VALUE, 1, 0, 0},
+            {9, 1, 1, 0, 0}, {9, 1, 1, 0, 1}, {15, 1, 1, 0, 0}, {Integer.MAX_VALUE, 1, 1, 0, 0}};
         for (int[] n : none) {
             Check.due("guards of none", x.guards(n[0], n[1], n[2], n[3], n[4]), -1);
         }

@@ -884,7 +884,7 @@ final class Oracle {
     }
 
     int guards(int m, int bits, int d, int k, int what) {
-        if (m < 0 || !in(bits, 1, (1 << drafts.size()) - 1) || !in(d, 1, 20) || !in(k, 0, 999) || !in(what, 0, 1)) {
+        if (!in(m, 0, 8) || !in(bits, 1, (1 << drafts.size()) - 1) || !in(d, 1, 20) || !in(k, 0, 999) || !in(what, 0, 1)) {
             return -1;
         }
         int[][] all = everybody(k);
