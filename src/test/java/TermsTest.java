@@ -51,6 +51,8 @@ public final class TermsTest {
         Check.due("without a line: fear", x.counted(7), 10);
         Check.due("without a line: lose", x.counted(8), 5);
         Check.due("without a line: knots", x.counted(6), 0);
+        x.terms(0);
+        // twice, as the terms before may be held in two places
         Check.terms(x, "unit land;first 1;weigh shrine 9;fear 9;lose 9;");
         Check.terms(x, "unit land;first 1;weigh shrine 9;fear 9;lose 9;");
         Check.terms(x, "weigh rail 1;");
