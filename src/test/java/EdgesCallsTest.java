@@ -18,6 +18,7 @@ public final class EdgesCallsTest {
         promise3AFaultTakesNothing();
         promise4Fault();
         promise5Land();
+        promise5NothingIsLeftOfALargerLand();
         promise6Days();
         promise7Village();
         promise8Errs();
@@ -274,6 +275,32 @@ public final class EdgesCallsTest {
         Check.due("no other district has any", y.given(9), 0);
         Check.terms(y, "unit village;first heads or rails or shrines;");
         Check.due("nothing stands in a village", y.given(9), 0);
+    }
+
+    /** "Another LAND": of a larger one that was full of all nothing is seen in any other, not even its people. */
+    private static void promise5NothingIsLeftOfALargerLand() {
+        for (int w = 2; w <= 5; w++) {
+            for (int h = 2; h <= 5; h++) {
+                AwardLine used = new AwardLine();
+                used.land(5, 5);
+                for (int v = 0; v < 25; v++) {
+                    used.count(0, v, 999, 998);
+                    used.village(v, v % 6, v % 2, true);
+                }
+                used.canal(24);
+                used.drinks(0, 23);
+                used.draft((1 << 25) - 1);
+                used.draft(1 << 24);
+                used.candidate(24);
+                used.flight(1 << 24, 3, 0, 0, 2);
+                used.guards(1, 3, 2, 0, 0);
+                used.weights(1 << 24, 0);
+                used.land(w, h);
+                AwardLine left = new AwardLine();
+                left.land(w, h);
+                Twin.alike("5 by 5, then " + w + " by " + h, used, left);
+            }
+        }
     }
 
     /** "So many DAYS go by (0 .. 999): TODAY; NONE, and nothing happens: no such number, beyond 999". */

@@ -89,6 +89,14 @@ public final class EdgesTextTest {
         Check.faulty("fear" + " ".repeat(396), 1, 400);
         Check.faulty(" ".repeat(394) + "fear 5", 1, 400);
         Check.faulty("z".repeat(400), 1, 0);
+        // the last byte ends a token, or the first part of one
+        for (String end : new String[] {"villag", "v", "shrine", "x", "!"}) {
+            Check.faulty(" ".repeat(400 - end.length()) + end, 1, 400 - end.length());
+            Check.faulty("unit" + " ".repeat(396 - end.length()) + end, 1, 400 - end.length());
+        }
+        for (String end : new String[] {"1", "1<", "1>", "1<=", "1<>", "1+", "ones", "(", "not"}) {
+            Check.faulty("first" + " ".repeat(395 - end.length()) + end, 1, 400);
+        }
         Check.faulty("fear " + "9".repeat(395), 2, 5);
         Check.faulty("fear " + "0".repeat(395), 1, 400);
         Check.reads("fear " + "0".repeat(393) + "7;", 1, 0);
@@ -520,8 +528,7 @@ public final class EdgesTextTest {
             "(0-3) < (0-2)", "2 and 3", "2 or 3", "0 or 7", "7 or 0", "not 0", "not not 7", "(0-5) and (0-7)",
             "0-5 or 0"};
         String[] noughts = {"2 < 2", "3 < 2", "3 <= 2", "2 = 3", "3 = 2", "2 <> 2", "1 >= 2", "2 > 2", "2 > 3",
-            "2 and 0", "0 and 2", "0 or 0",
-            "0 and 0", "not 7", "not 1", "not (0-1)", "not not 0"};
+            "2 and 0", "0 and 2", "0 or 0", "0 and 0", "not 7", "not 1", "not (0-1)", "not not 0"};
         for (String one : ones) {
             gives(x, "first (" + one + ") = 1;", 15);
             gives(x, "first 5 + (" + one + ") = 6;", 15);

@@ -3,7 +3,7 @@ import java.util.List;
 import java.util.function.Supplier;
 import java.util.function.ToLongFunction;
 
-/** Refused calls: what was refused goes on as its twin does, who was never asked. */
+/** Two objects that must go on alike, as one that was refused a call and its twin, who was never asked. */
 final class Twin {
     private static final int BLANKS = 0x20202020;
     private static final int LATE = 999;
@@ -15,7 +15,11 @@ final class Twin {
         AwardLine asked = made.get();
         AwardLine left = made.get();
         Check.due(call, ask.applyAsLong(asked), answer);
-        Check.due(call + " changes nothing", seen(asked).equals(seen(left)), true);
+        alike(call + " changes nothing", asked, left);
+    }
+
+    static void alike(String why, AwardLine one, AwardLine other) {
+        Check.due(why, seen(one).equals(seen(other)), true);
     }
 
     static void none(String call, Supplier<AwardLine> made, ToLongFunction<AwardLine> ask) {
